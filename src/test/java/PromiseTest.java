@@ -344,6 +344,13 @@ public final class PromiseTest {
     }
 
     private static void clears() {
+        TokenHouse first = new TokenHouse();
+        first.node(PLUS, 0);
+        first.token(0, 0, 1L);
+        first.clear(false);
+        due("6 none WAIT", first.waiting(0, 0), 0);
+        first.token(0, 0, 1L);
+        due("6 no TRAP", first.total(7), 0);
         TokenHouse h = new TokenHouse();
         h.node(ARRAY, 0);
         h.node(FETCH, 0);
@@ -814,6 +821,64 @@ public final class PromiseTest {
         due("8 made where no ARC leads on", madeWithoutArcs(), 2);
     }
 
+    /** ENTER, then the OP, then END: what an ERROR or an ARRAY comes to, and in which CONTEXT. */
+    private static String moved(int op, int n, String input) {
+        TokenHouse h = new TokenHouse();
+        int enter = h.node(ENTER, -2);
+        int caller = h.node(CALL, 99);
+        int end = h.node(END, 0);
+        int next = h.node(NEXT, 0);
+        int tested = h.node(op, n);
+        h.arc(enter, 0, next, 0);
+        h.arc(next, 0, tested, 0);
+        h.arc(tested, 0, end, 0);
+        h.arc(caller, 0, end, 0);
+        int source = feeder(h, input, enter, 0);
+        feed(h, source, input);
+        inTurn(h, 500);
+        return results(h);
+    }
+
+    private static void movedValues() {
+        for (String input : new String[] {"e1", "e2", "e4", "a"}) {
+            String value = input.equals("a") ? "a0" : input;
+            due("0 with " + input, moved(SAME, 0, input), value + "@2");
+            due("8 with " + input, moved(ENTER, 5, input), value + "@3");
+            due("9 with " + input, moved(NEXT, 0, input), value + "@3");
+            due("10 with " + input, moved(FIRST, 0, input), value + "@1");
+            due("11 with " + input, moved(LEAVE, 0, input), value + "@0");
+            due("12 with " + input, moved(CALL, 2, input), value + "@3");
+            due("13 with " + input, moved(RETURN, 0, input), value + "@0");
+        }
+    }
+
+    private static void callTooMany() {
+        TokenHouse h = new TokenHouse();
+        int deeper = h.node(CALL, 0);
+        h.token(deeper, 0, 1L);
+        due("12 the 151st CONTEXT is TRAP 2", h.run(500, 0L), 151);
+        due("12 all", totals(h), "1 0 0 0 151 0 0 2 151 151");
+        due("12 each in the one before", context(h, 150), "149,-1,0");
+    }
+
+    private static void fetchOfWritten() {
+        TokenHouse h = new TokenHouse();
+        int array = h.node(ARRAY, 0);
+        int store = h.node(STORE, 0);
+        int fetch = h.node(FETCH, 0);
+        int end = h.node(END, 0);
+        h.arc(array, 0, store, 0);
+        h.arc(array, 0, fetch, 0);
+        h.arc(fetch, 0, end, 0);
+        h.token(array, 0, 3L);
+        h.token(store, 1, 2L);
+        h.token(store, 2, -9L);
+        h.run(2, 0L);
+        h.token(fetch, 1, 2L);
+        due("15 went", h.run(9, 0L), 2);
+        due("15 what the cell has", results(h) + " " + h.total(6), "n-9@0 0");
+    }
+
     private static int madeWithoutArcs() {
         TokenHouse h = new TokenHouse();
         h.node(ENTER, 2);
@@ -856,6 +921,9 @@ public final class PromiseTest {
         returns();
         returnBySwitch();
         moves();
+        movedValues();
+        callTooMany();
+        fetchOfWritten();
         System.out.println(wrong == 0 ? "all answers are as due" : wrong + " answers are not as due");
         if (wrong != 0) {
             System.exit(1);
