@@ -7,8 +7,10 @@ import java.util.TreeMap;
 
 /** Random runs of calls on a TokenHouse and on a plain second model of the document, answer by answer. */
 public final class ModelTest {
-    private static final int RUNS = 3000;
-    private static final int CALLS = 100;
+    private static final int RUNS = 6000;
+    private static final int STEPS = 100;
+    /** Behind the 512th call nothing is promised. */
+    private static final int MOST_CALLS = 512;
 
     /** A VALUE as the text of its kind (0, 1, 2) and its number. */
     private static final class Val {
@@ -360,6 +362,7 @@ public final class ModelTest {
         final Model model = new Model();
         final StringBuilder story = new StringBuilder();
         boolean differs;
+        int calls;
         int[] traps = new int[4];
         int mostKept;
 
@@ -369,7 +372,15 @@ public final class ModelTest {
             mostKept = Math.max(mostKept, model.total(6));
         }
 
+        boolean isOver() {
+            return differs || calls == MOST_CALLS;
+        }
+
         void ask(String call, Ask a, Ask b) {
+            if (isOver()) {
+                return;
+            }
+            calls++;
             String got = told(a);
             String want = told(b);
             story.append(call).append(" = ").append(got).append('\n');
@@ -440,7 +451,7 @@ public final class ModelTest {
             setArc(p, r.nextBoolean() ? level : 3 + level, i, 2);
             setArc(p, i, end, 0);
         }
-        for (int i = 0; i < 20; i++) {
+        for (int i = 0; i < 3; i++) {
             long x = r.nextInt(8) == 0 ? r.nextInt(12) - 2 : 2;
             long pick = r.nextLong();
             p.ask("token(0, 0, " + x + ")", () -> bit(p.house.token(0, 0, x)), () -> bit(p.model.token(0, 0, x)));
@@ -604,7 +615,7 @@ public final class ModelTest {
         } else {
             build(r, p, r.nextInt(6) == 0 ? 39 : 10, ops);
         }
-        for (int call = 0; call < CALLS && !p.differs; call++) {
+        for (int call = 0; call < STEPS && !p.isOver(); call++) {
             step(r, p, ops);
             if (call % 25 == 24) {
                 lookAtAll(p);

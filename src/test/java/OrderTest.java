@@ -8,7 +8,7 @@ public final class OrderTest {
     private static int wrong = 0;
 
     private interface Graph {
-        void build(TokenHouse h);
+        void build(House h);
     }
 
     private static void must(boolean held, String what) {
@@ -18,7 +18,7 @@ public final class OrderTest {
         }
     }
 
-    private static void arc(TokenHouse h, int from, int side, int to, int port) {
+    private static void arc(House h, int from, int side, int to, int port) {
         must(h.arc(from, side, to, port), "arc(" + from + ", " + side + ", " + to + ", " + port + ") is false");
     }
 
@@ -29,7 +29,7 @@ public final class OrderTest {
         final int choose;
         final int next;
 
-        Loop(TokenHouse h) {
+        Loop(House h) {
             in = h.node(ENTER, 1);
             now = h.node(SAME, 0);
             choose = h.node(SWITCH, 0);
@@ -41,7 +41,7 @@ public final class OrderTest {
     }
 
     /** The sum of 1 .. 30, in 31 ROUNDS. */
-    private static void sum(TokenHouse h) {
+    private static void sum(House h) {
         Loop i = new Loop(h);
         Loop s = new Loop(h);
         Loop k = new Loop(h);
@@ -72,7 +72,7 @@ public final class OrderTest {
     }
 
     /** 12! and 9! by CALLS in CALLS. */
-    private static void factorials(TokenHouse h) {
+    private static void factorials(House h) {
         int first = h.node(CALL, 2);
         int second = h.node(CALL, 2);
         int x = h.node(SAME, 0);
@@ -107,7 +107,7 @@ public final class OrderTest {
     }
 
     /** Cells 2 .. 7, each the sum of the two before it; most are fetched before they are written. */
-    private static void cells(TokenHouse h) {
+    private static void cells(House h) {
         int array = h.node(ARRAY, 0);
         Loop i = new Loop(h);
         Loop a = new Loop(h);
@@ -161,7 +161,7 @@ public final class OrderTest {
 
     /** The end: all totals but that of all goings, and the RESULTS, sorted. */
     private static String end(Graph graph, long pick, int step) {
-        TokenHouse h = new TokenHouse();
+        House h = new House();
         graph.build(h);
         Random r = new Random(pick);
         int rounds = 0;

@@ -1,123 +1,7 @@
 /** Each promise by itself: ordinary inputs, the edges that the document names, wrong inputs. */
-public final class PromiseTest {
-    private static final int SAME = 0, PLUS = 1, MINUS = 2, TIMES = 3, DIVIDE = 4, LESS = 5, CONSTANT = 6,
-            SWITCH = 7, ENTER = 8, NEXT = 9, FIRST = 10, LEAVE = 11, CALL = 12, RETURN = 13, ARRAY = 14,
-            FETCH = 15, STORE = 16, END = 17;
-    private static final int[] PORTS = {1, 2, 2, 2, 2, 2, 1, 2, 1, 1, 1, 1, 1, 1, 1, 2, 3, 1};
-    private static final String FINE = "nothing";
-    private static int wrong = 0;
-
-    private interface Act {
-        void go();
-    }
-
-    private static void due(String what, Object got, Object want) {
-        if (!String.valueOf(got).equals(String.valueOf(want))) {
-            wrong++;
-            System.out.println(what + ": got " + got + ", due is " + want);
-        }
-    }
-
-    private static String thrown(Act act) {
-        try {
-            act.go();
-        } catch (RuntimeException e) {
-            return e.getClass().getSimpleName();
-        }
-        return FINE;
-    }
-
-    /** Always the first of those that are READY, whatever pick would become: how many went. */
-    private static int inTurn(TokenHouse h, int most) {
-        int went = 0;
-        while (went < most && h.run(1, 0L) == 1) {
-            went++;
-        }
-        return went;
-    }
-
-    /** All totals in one text, in the order of 'what'. */
-    private static String totals(TokenHouse h) {
-        StringBuilder s = new StringBuilder();
-        for (int what = 0; what <= 9; what++) {
-            s.append(what == 0 ? "" : " ").append(h.total(what));
-        }
-        return s.toString();
-    }
-
-    /** All RESULTS: n, e or a (number, ERROR, ARRAY), what it is, and its CONTEXT. */
-    private static String results(TokenHouse h) {
-        StringBuilder s = new StringBuilder();
-        for (int i = 0; i < h.total(3); i++) {
-            s.append(i == 0 ? "" : " ").append("nea".charAt((int) h.result(i, 0)));
-            s.append(h.result(i, 1)).append('@').append(h.result(i, 2));
-        }
-        return s.toString();
-    }
-
-    private static String cell(TokenHouse h, int array, int i) {
-        return h.cell(array, i, 0) + "," + h.cell(array, i, 1) + "," + h.cell(array, i, 2);
-    }
-
-    private static String context(TokenHouse h, int c) {
-        return h.context(c, 0) + "," + h.context(c, 1) + "," + h.context(c, 2);
-    }
-
-    private static String readies(TokenHouse h) {
-        StringBuilder s = new StringBuilder();
-        for (int i = 0; i < h.total(1); i++) {
-            s.append(i == 0 ? "" : " ").append(h.ready(i, 0)).append('@').append(h.ready(i, 1));
-        }
-        return s.toString();
-    }
-
-    /** What an OP makes of its inputs: a text like "n5@0"; an input is a number, or "e1".."e4", or "a" (an ARRAY). */
-    private static String made(int op, int n, Object... inputs) {
-        TokenHouse h = new TokenHouse();
-        int node = h.node(op, n);
-        int end = h.node(END, 0);
-        h.arc(node, 0, end, 0);
-        int[] source = new int[inputs.length];
-        for (int i = 0; i < inputs.length; i++) {
-            source[i] = inputs[i] instanceof String ? feeder(h, (String) inputs[i], node, i) : NO_FEEDER;
-        }
-        for (int i = 0; i < inputs.length; i++) {
-            if (source[i] == NO_FEEDER) {
-                h.token(node, i, ((Number) inputs[i]).longValue());
-            } else {
-                feed(h, source[i], (String) inputs[i]);
-            }
-        }
-        h.run(500, 0L);
-        return results(h);
-    }
-
-    private static final int NO_FEEDER = -1;
-
-    private static int feeder(TokenHouse h, String input, int node, int port) {
-        int first;
-        switch (input) {
-            case "e1": first = h.node(DIVIDE, 0); h.arc(first, 0, node, port); return first;
-            case "e3": first = h.node(ARRAY, 0); int fetch = h.node(FETCH, 0);
-                h.arc(first, 0, fetch, 0); h.arc(fetch, 0, node, port); return first;
-            case "e4": first = h.node(ARRAY, 0); int plus = h.node(PLUS, 0);
-                h.arc(first, 0, plus, 0); h.arc(plus, 0, node, port); return first;
-            default: first = h.node(ARRAY, 0); h.arc(first, 0, node, port); return first;
-        }
-    }
-
-    private static void feed(TokenHouse h, int first, String input) {
-        switch (input) {
-            case "e1": h.token(first, 0, 1L); h.token(first, 1, 0L); break;
-            case "e2": h.token(first, 0, 9L); break;
-            case "e3": h.token(first, 0, 2L); h.token(first + 1, 1, 2L); break;
-            case "e4": h.token(first, 0, 2L); h.token(first + 1, 1, 2L); break;
-            default: h.token(first, 0, 2L); break;
-        }
-    }
-
+public final class PromiseTest extends Check {
     private static void newObject() {
-        TokenHouse h = new TokenHouse();
+        House h = new House();
         due("1 totals", totals(h), "0 0 0 0 1 0 0 0 0 0");
         due("1 ready", h.ready(0, 0), -1);
         due("1 root", context(h, 0), "-1,0,0");
@@ -129,7 +13,7 @@ public final class PromiseTest {
     }
 
     private static void nodes() {
-        TokenHouse h = new TokenHouse();
+        House h = new House();
         for (int op : new int[] {-1, 18, Integer.MIN_VALUE, Integer.MAX_VALUE}) {
             due("2 op " + op, thrown(() -> h.node(op, 0)), "IllegalArgumentException");
         }
@@ -139,7 +23,7 @@ public final class PromiseTest {
         due("2 forty", thrown(() -> h.node(0, 0)), "IllegalStateException");
         due("2 no OP and forty", thrown(() -> h.node(18, 0)), "IllegalArgumentException");
         due("2 total", h.total(0), 40);
-        TokenHouse g = new TokenHouse();
+        House g = new House();
         g.node(PLUS, 0);
         g.token(0, 5, 1L);
         due("2 a refused token does not count", g.node(END, 0), 1);
@@ -151,7 +35,7 @@ public final class PromiseTest {
     }
 
     private static void arcs() {
-        TokenHouse h = new TokenHouse();
+        House h = new House();
         for (int op = 0; op < 18; op++) {
             h.node(op, 0);
         }
@@ -176,7 +60,7 @@ public final class PromiseTest {
     }
 
     private static void arcsInOrder() {
-        TokenHouse h = new TokenHouse();
+        House h = new House();
         for (int i = 0; i < 4; i++) {
             h.node(SAME, 0);
         }
@@ -190,7 +74,7 @@ public final class PromiseTest {
     }
 
     private static void tokens() {
-        TokenHouse h = new TokenHouse();
+        House h = new House();
         due("4 no NODE", h.token(0, 0, 1L), false);
         h.node(STORE, 0);
         due("4 wrong", h.token(1, 0, 1L) || h.token(-1, 0, 1L) || h.token(0, 3, 1L) || h.token(0, -1, 1L), false);
@@ -206,53 +90,40 @@ public final class PromiseTest {
         due("4 unchanged", totals(h), "1 1 1 0 1 0 0 1 0 0");
     }
 
+    /** SAME (NODE 0, READY 'ready' times) and PLUS (NODE 1, one WAITS if 'waits'). */
+    private static House filled(int ready, boolean waits) {
+        House h = with(SAME, PLUS, SAME);
+        h.arc(0, 0, 2, 0);
+        if (waits) {
+            h.token(1, 0, 1L);
+        }
+        for (int i = 0; i < ready; i++) {
+            h.token(0, 0, i);
+        }
+        return h;
+    }
+
     private static void fullStore() {
-        TokenHouse h = new TokenHouse();
-        h.node(SAME, 0);
-        h.node(PLUS, 0);
-        h.token(1, 0, 1L);
-        for (int i = 0; i < 299; i++) {
-            h.token(0, 0, i);
-        }
-        due("4 300", totals(h), "2 299 1 0 1 0 0 0 0 0");
+        House h = filled(299, true);
+        due("4 300", totals(h), "3 299 1 0 1 0 0 0 0 0");
         due("4 one more", h.token(0, 0, 1L), true);
-        due("4 TRAP 2", totals(h), "2 299 1 0 1 0 0 2 0 0");
-        h.clear(false);
-        h.token(1, 0, 1L);
-        for (int i = 0; i < 299; i++) {
-            h.token(0, 0, i);
-        }
-        h.token(1, 0, 1L);
-        due("4 TRAP 1 before TRAP 2", h.total(7), 1);
-        h.clear(false);
-        for (int i = 0; i < 300; i++) {
-            h.token(0, 0, i);
-        }
-        due("4 partner", h.token(1, 0, 1L), true);
-        due("4 TRAP 2 at a PORT that is free", totals(h), "2 300 0 0 1 0 0 2 0 0");
+        due("4 TRAP 2", totals(h), "3 299 1 0 1 0 0 2 0 0");
+        House g = filled(299, true);
+        g.token(1, 0, 1L);
+        due("4 TRAP 1 before TRAP 2", g.total(7), 1);
+        House f = filled(300, false);
+        due("4 partner", f.token(1, 0, 1L), true);
+        due("4 TRAP 2 at a PORT that is free", totals(f), "3 300 0 0 1 0 0 2 0 0");
     }
 
     private static void goingMakesRoom() {
-        TokenHouse h = new TokenHouse();
-        h.node(SAME, 0);
-        h.node(SAME, 0);
-        h.arc(0, 0, 1, 0);
-        for (int i = 0; i < 300; i++) {
-            h.token(0, 0, i);
-        }
+        House h = filled(300, false);
         due("5 one gone, one come", h.run(300, 0L), 300);
         due("5 no TRAP", h.total(7), 0);
-        h.clear(false);
-        h.arc(0, 0, 1, 0);
-        for (int i = 0; i < 300; i++) {
-            h.token(0, 0, i);
-        }
-        due("5 the one that made the TRAP went", h.run(300, 0L), 1);
-        due("5 what was done stays", totals(h), "2 300 0 0 1 0 0 2 1 301");
     }
 
     private static void keptCount() {
-        TokenHouse h = new TokenHouse();
+        House h = new House();
         int array = h.node(ARRAY, 0);
         int same = h.node(SAME, 0);
         int enter = h.node(ENTER, 1);
@@ -280,7 +151,7 @@ public final class PromiseTest {
     }
 
     private static void runs() {
-        TokenHouse h = new TokenHouse();
+        House h = new House();
         for (int n : new int[] {0, 501, -1, Integer.MIN_VALUE, Integer.MAX_VALUE}) {
             due("5 n " + n, thrown(() -> h.run(n, 0L)), "IllegalArgumentException");
         }
@@ -305,7 +176,7 @@ public final class PromiseTest {
     private static void picks() {
         long[] picks = {0L, 1L, 2L, 7L, -1L, Long.MIN_VALUE, Long.MAX_VALUE, 1234567890123L};
         for (long pick : picks) {
-            TokenHouse h = new TokenHouse();
+            House h = new House();
             int[] left = new int[7];
             for (int i = 0; i < 7; i++) {
                 left[i] = h.node(END, 0);
@@ -327,7 +198,7 @@ public final class PromiseTest {
     }
 
     private static void trapsInRun() {
-        TokenHouse h = new TokenHouse();
+        House h = new House();
         h.node(SAME, 0);
         h.node(PLUS, 0);
         h.node(END, 0);
@@ -344,14 +215,14 @@ public final class PromiseTest {
     }
 
     private static void clears() {
-        TokenHouse first = new TokenHouse();
+        House first = new House();
         first.node(PLUS, 0);
         first.token(0, 0, 1L);
         first.clear(false);
         due("6 none WAIT", first.waiting(0, 0), 0);
         first.token(0, 0, 1L);
         due("6 no TRAP", first.total(7), 0);
-        TokenHouse h = new TokenHouse();
+        House h = new House();
         h.node(ARRAY, 0);
         h.node(FETCH, 0);
         h.node(ENTER, 4);
@@ -385,7 +256,7 @@ public final class PromiseTest {
     }
 
     private static void readyPlaces() {
-        TokenHouse h = new TokenHouse();
+        House h = new House();
         h.node(ENTER, 3);
         h.node(SAME, 0);
         h.node(END, 0);
@@ -400,7 +271,7 @@ public final class PromiseTest {
     }
 
     private static void resultAnswers() {
-        TokenHouse h = new TokenHouse();
+        House h = new House();
         h.node(END, 0);
         h.node(ENTER, -5);
         h.node(ARRAY, 0);
@@ -418,7 +289,7 @@ public final class PromiseTest {
     }
 
     private static void contextAnswers() {
-        TokenHouse h = new TokenHouse();
+        House h = new House();
         int a = h.node(ENTER, Integer.MIN_VALUE);
         int b = h.node(ENTER, 7);
         int next = h.node(NEXT, 0);
@@ -444,7 +315,7 @@ public final class PromiseTest {
 
     private static void rootMoves() {
         for (int op = NEXT; op <= LEAVE; op++) {
-            TokenHouse h = new TokenHouse();
+            House h = new House();
             h.node(op, 3);
             h.node(END, 0);
             h.arc(0, 0, 1, 0);
@@ -455,7 +326,7 @@ public final class PromiseTest {
     }
 
     private static void mostContexts() {
-        TokenHouse h = new TokenHouse();
+        House h = new House();
         h.node(ENTER, 1);
         h.node(NEXT, 0);
         h.arc(0, 0, 1, 0);
@@ -467,7 +338,7 @@ public final class PromiseTest {
     }
 
     private static void cellAnswers() {
-        TokenHouse h = new TokenHouse();
+        House h = new House();
         int array = h.node(ARRAY, 0);
         int fetch = h.node(FETCH, 0);
         int store = h.node(STORE, 0);
@@ -495,7 +366,7 @@ public final class PromiseTest {
     }
 
     private static void cellValues() {
-        TokenHouse h = new TokenHouse();
+        House h = new House();
         int array = h.node(ARRAY, 0);
         int store = h.node(STORE, 0);
         int divide = h.node(DIVIDE, 0);
@@ -512,8 +383,8 @@ public final class PromiseTest {
         due("10 STORE gives it", results(h), "e1@0");
     }
 
-    private static TokenHouse twoStores(int lateArc) {
-        TokenHouse h = new TokenHouse();
+    private static House twoStores(int lateArc) {
+        House h = new House();
         int array = h.node(ARRAY, 0);
         int first = h.node(STORE, 0);
         int second = h.node(STORE, 0);
@@ -531,17 +402,17 @@ public final class PromiseTest {
     }
 
     private static void writtenTwice() {
-        TokenHouse h = twoStores(0);
+        House h = twoStores(0);
         due("10 run to TRAP 3", inTurn(h, 9), 3);
         due("10 TRAP 3", totals(h), "4 1 0 0 1 1 0 3 3 3");
         due("10 the first stays", cell(h, 0, 0), "0,10,0");
-        TokenHouse g = twoStores(1);
+        House g = twoStores(1);
         due("10 no cell", inTurn(g, 9), 5);
         due("10 ERROR 3", results(g), "n10@0 e3@0");
     }
 
     private static void keptInOrder() {
-        TokenHouse h = new TokenHouse();
+        House h = new House();
         int array = h.node(ARRAY, 0);
         int store = h.node(STORE, 0);
         int a = h.node(FETCH, 0);
@@ -571,7 +442,7 @@ public final class PromiseTest {
     }
 
     private static void keptBehindTrap() {
-        TokenHouse h = new TokenHouse();
+        House h = new House();
         int array = h.node(ARRAY, 0);
         int store = h.node(STORE, 0);
         int fetch = h.node(FETCH, 0);
@@ -602,7 +473,7 @@ public final class PromiseTest {
     }
 
     private static void mostArrays() {
-        TokenHouse h = new TokenHouse();
+        House h = new House();
         h.node(ARRAY, 0);
         h.node(CONSTANT, 8);
         h.arc(0, 0, 1, 0);
@@ -622,7 +493,7 @@ public final class PromiseTest {
     }
 
     private static void waitingAnswers() {
-        TokenHouse h = new TokenHouse();
+        House h = new House();
         h.node(STORE, 0);
         h.node(ENTER, 1);
         h.arc(1, 0, 0, 2);
@@ -639,7 +510,7 @@ public final class PromiseTest {
     }
 
     private static void totalsAnswer() {
-        TokenHouse h = new TokenHouse();
+        House h = new House();
         for (int what : new int[] {-1, 10, Integer.MIN_VALUE, Integer.MAX_VALUE}) {
             due("12 what " + what, h.total(what), -1);
         }
@@ -684,8 +555,8 @@ public final class PromiseTest {
         due("16 z", made(STORE, 0, "a", 1L, "e2") + made(STORE, 0, "a", 0L, "a"), "e2@0a1@0");
     }
 
-    private static TokenHouse switched(Object x, Object y) {
-        TokenHouse h = new TokenHouse();
+    private static House switched(Object x, Object y) {
+        House h = new House();
         int node = h.node(SWITCH, 0);
         int end = h.node(END, 0);
         int side = h.node(ENTER, 1);
@@ -693,18 +564,7 @@ public final class PromiseTest {
         h.arc(node, 0, end, 0);
         h.arc(node, 1, side, 0);
         h.arc(side, 0, end, 0);
-        int fx = x instanceof String ? feeder(h, (String) x, node, 0) : NO_FEEDER;
-        int fy = y instanceof String ? feeder(h, (String) y, node, 1) : NO_FEEDER;
-        if (fx == NO_FEEDER) {
-            h.token(node, 0, (Long) x);
-        } else {
-            feed(h, fx, (String) x);
-        }
-        if (fy == NO_FEEDER) {
-            h.token(node, 1, (Long) y);
-        } else {
-            feed(h, fy, (String) y);
-        }
+        comeTo(h, node, x, y);
         inTurn(h, 500);
         return h;
     }
@@ -720,7 +580,7 @@ public final class PromiseTest {
     }
 
     private static void sideNoughtFirst() {
-        TokenHouse h = new TokenHouse();
+        House h = new House();
         h.node(SWITCH, 0);
         h.node(SAME, 0);
         h.node(SAME, 0);
@@ -738,7 +598,7 @@ public final class PromiseTest {
     }
 
     private static void calls() {
-        TokenHouse h = new TokenHouse();
+        House h = new House();
         int first = h.node(CALL, 2);
         int second = h.node(CALL, 2);
         int square = h.node(SAME, 0);
@@ -770,7 +630,7 @@ public final class PromiseTest {
     private static void returns() {
         int[] sites = {3, 0, -1, -2, -4, -5, -41, Integer.MIN_VALUE, Integer.MAX_VALUE};
         for (int site : sites) {
-            TokenHouse h = new TokenHouse();
+            House h = new House();
             int enter = h.node(ENTER, site);
             int same = h.node(SAME, 0);
             int back = h.node(RETURN, 0);
@@ -787,7 +647,7 @@ public final class PromiseTest {
     }
 
     private static void returnBySwitch() {
-        TokenHouse h = new TokenHouse();
+        House h = new House();
         int enter = h.node(ENTER, -2);
         int choose = h.node(SWITCH, 0);
         int back = h.node(RETURN, 0);
@@ -802,7 +662,7 @@ public final class PromiseTest {
     }
 
     private static void moves() {
-        TokenHouse h = new TokenHouse();
+        House h = new House();
         int enter = h.node(ENTER, 2);
         int inner = h.node(ENTER, 2);
         int leave = h.node(LEAVE, 0);
@@ -823,7 +683,7 @@ public final class PromiseTest {
 
     /** ENTER, then the OP, then END: what an ERROR or an ARRAY comes to, and in which CONTEXT. */
     private static String moved(int op, int n, String input) {
-        TokenHouse h = new TokenHouse();
+        House h = new House();
         int enter = h.node(ENTER, -2);
         int caller = h.node(CALL, 99);
         int end = h.node(END, 0);
@@ -833,8 +693,7 @@ public final class PromiseTest {
         h.arc(next, 0, tested, 0);
         h.arc(tested, 0, end, 0);
         h.arc(caller, 0, end, 0);
-        int source = feeder(h, input, enter, 0);
-        feed(h, source, input);
+        comeTo(h, enter, input);
         inTurn(h, 500);
         return results(h);
     }
@@ -853,7 +712,7 @@ public final class PromiseTest {
     }
 
     private static void callTooMany() {
-        TokenHouse h = new TokenHouse();
+        House h = new House();
         int deeper = h.node(CALL, 0);
         h.token(deeper, 0, 1L);
         due("12 the 151st CONTEXT is TRAP 2", h.run(500, 0L), 151);
@@ -862,7 +721,7 @@ public final class PromiseTest {
     }
 
     private static void fetchOfWritten() {
-        TokenHouse h = new TokenHouse();
+        House h = new House();
         int array = h.node(ARRAY, 0);
         int store = h.node(STORE, 0);
         int fetch = h.node(FETCH, 0);
@@ -880,7 +739,7 @@ public final class PromiseTest {
     }
 
     private static int madeWithoutArcs() {
-        TokenHouse h = new TokenHouse();
+        House h = new House();
         h.node(ENTER, 2);
         h.token(0, 0, 1L);
         h.run(1, 0L);
@@ -888,45 +747,6 @@ public final class PromiseTest {
     }
 
     public static void main(String[] args) {
-        newObject();
-        nodes();
-        arcs();
-        arcsInOrder();
-        tokens();
-        fullStore();
-        goingMakesRoom();
-        keptCount();
-        runs();
-        picks();
-        trapsInRun();
-        clears();
-        readyPlaces();
-        resultAnswers();
-        contextAnswers();
-        rootMoves();
-        mostContexts();
-        cellAnswers();
-        cellValues();
-        writtenTwice();
-        keptInOrder();
-        keptBehindTrap();
-        mostArrays();
-        waitingAnswers();
-        totalsAnswer();
-        arithmetic();
-        errors();
-        switches();
-        sideNoughtFirst();
-        calls();
-        returns();
-        returnBySwitch();
-        moves();
-        movedValues();
-        callTooMany();
-        fetchOfWritten();
-        System.out.println(wrong == 0 ? "all answers are as due" : wrong + " answers are not as due");
-        if (wrong != 0) {
-            System.exit(1);
-        }
+        runAll(PromiseTest.class);
     }
 }
