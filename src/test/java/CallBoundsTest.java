@@ -694,6 +694,48 @@ public final class CallBoundsTest extends Check {
         due("6 neither", cell(h, 0, 0) + " " + cell(h, 0, 1) + " " + h.total(6), "3,0,0 3,0,0 0");
     }
 
+    /** The same of the last cells of the 40th ARRAY. */
+    private static void p06LastCellsGo() {
+        House h = with(ARRAY, ARRAY, STORE, FETCH);
+        h.arc(1, 0, 2, 0);
+        h.arc(1, 0, 3, 0);
+        h.token(2, 1, 7L);
+        h.token(2, 2, 5L);
+        h.token(3, 1, 6L);
+        for (int round = 0; round < 2; round++) {
+            for (int i = 0; i < 39; i++) {
+                h.token(0, 0, 8L);
+            }
+            h.run(39, 0L);
+            h.token(1, 0, 8L);
+            h.run(3, 0L);
+            String want = round == 0 ? "3,0,1 0,5,0" : "3,0,0 3,0,0";
+            due("6 of ARRAY 39", cell(h, 39, 6) + " " + cell(h, 39, 7), want);
+            h.clear(false);
+        }
+    }
+
+    /** TOKENS of before are not mixed up with those of after, in whatever order the NODES get theirs. */
+    private static void p06NotMixedUp() {
+        House h = with(MINUS, MINUS, MINUS, MINUS, MINUS, END);
+        for (int i = 0; i < 5; i++) {
+            h.arc(i, 0, 5, 0);
+        }
+        for (int i = 0; i < 4; i++) {
+            h.token(i, 0, 100L * i);
+        }
+        h.clear(false);
+        for (int i = 4; i >= 0; i--) {
+            due("6 comes", h.token(i, 1 - i % 2, i) + " " + h.waiting(i, 0) + " " + h.total(7), "true 1 0");
+        }
+        due("6 none READY", h.total(1) + " " + waitings(h), "0 1 1 1 1 1 0");
+        for (int i = 0; i < 5; i++) {
+            h.token(i, i % 2, 10L * i);
+        }
+        inTurn(h, 10);
+        due("6 differences", results(h), "n0@0 n-9@0 n18@0 n-27@0 n36@0");
+    }
+
     /** A clear where there is nothing, and a second one, change nothing. */
     private static void p06Twice() {
         House h = new House();

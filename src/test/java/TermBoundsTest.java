@@ -457,6 +457,20 @@ public final class TermBoundsTest extends Check {
         due("12 went", h.run(9, 0L) + " " + h.total(3), "2 0");
     }
 
+    /** A CALL in a call: nothing goes back to the caller but by RETURN. */
+    private static void op12InACall() {
+        House h = new House();
+        h.node(CALL, 1);
+        h.node(CALL, 2);
+        h.node(SAME, 0);
+        h.node(END, 0);
+        h.arc(0, 0, 3, 0);
+        h.arc(1, 0, 3, 0);
+        h.token(0, 0, 1L);
+        due("12 went", h.run(9, 0L) + " " + h.total(3), "3 0");
+        due("12 CONTEXTS", context(h, 1) + " " + context(h, 2) + " " + h.total(4), "0,-1,0 1,-2,0 3");
+    }
+
     /** ENTER (SITE) -> RETURN; NODE 2 -> END 3; NODE 4 has no ARCS. */
     private static String returned(int site) {
         House h = new House();
@@ -876,29 +890,37 @@ public final class TermBoundsTest extends Check {
         }
     }
 
-    /** "x of 0, 8 to 13, 17" goes on as it is: ERRORS, ARRAYS, numbers. */
+    /** ENTER (SITE -2) and NEXT, so in ROUND 1 in CONTEXT 2; then the OP, then END; NODE 1 is the caller. */
+    private static String inRoundOne(int op, int n, String input) {
+        House h = new House();
+        h.node(ENTER, -2);
+        h.node(SAME, 0);
+        h.node(NEXT, 0);
+        h.node(END, 0);
+        h.node(op, n);
+        h.arc(0, 0, 2, 0);
+        h.arc(2, 0, 4, 0);
+        h.arc(1, 0, 3, 0);
+        h.arc(4, 0, 3, 0);
+        comeTo(h, 0, input);
+        inTurn(h, 20);
+        return results(h);
+    }
+
+    /** "x of 0, 8 to 13, 17" is no such one: it goes where a number would go, an ARRAY too. */
     private static void errorsGoThrough() {
         for (String input : new String[] {"e1", "e2", "e3", "e4", "a"}) {
             String value = input.equals("a") ? "a0" : input;
-            op("0", made(SAME, 0, input), value);
-            due("8", made(ENTER, 4, input), value + "@1");
-            op("9", made(NEXT, 0, input), value);
-            op("10", made(FIRST, 0, input), value);
-            op("11", made(LEAVE, 0, input), value);
-            due("12, 13", called(input), value + "@0");
-            op("17", ended(input), value);
+            due("0", inRoundOne(SAME, 0, input), value + "@2");
+            due("8", inRoundOne(ENTER, 4, input), value + "@3");
+            due("9", inRoundOne(NEXT, 0, input), value + "@3");
+            due("10", inRoundOne(FIRST, 0, input), value + "@1");
+            due("11", inRoundOne(LEAVE, 0, input), value + "@0");
+            due("12", inRoundOne(CALL, 3, input), value + "@3");
+            due("12 of no NODE", inRoundOne(CALL, 99, input), "");
+            due("13", inRoundOne(RETURN, 0, input), value + "@0");
+            due("17", ended(input), value + "@0");
         }
-    }
-
-    private static String called(String input) {
-        House h = new House();
-        h.node(CALL, 1);
-        h.node(RETURN, 0);
-        h.node(END, 0);
-        h.arc(0, 0, 2, 0);
-        comeTo(h, 0, input);
-        h.run(9, 0L);
-        return results(h);
     }
 
     private static String ended(String input) {
