@@ -5,6 +5,7 @@ import java.lang.reflect.Method;
 import java.lang.reflect.Modifier;
 import java.nio.file.Files;
 import java.nio.file.Path;
+import java.util.ArrayList;
 import java.util.Arrays;
 import java.util.List;
 import java.util.Set;
@@ -32,7 +33,17 @@ public final class FaceTest {
             "public int TokenHouse.total(int)"));
     private static final List<String> BARRED = List.of("catch", "finally", "synchronized", "assert", "->", "::",
             "\\.stream", "Random", "System\\.", "Thread", "@Override", "\\bObject\\b", "volatile", "\\bNaN\\b",
-            "hashCode", "toString", "\\.equals", "static \\{", "while \\(true\\)", "for \\(;;\\)");
+            "hashCode", "toString", "\\.equals", "static \\{", "while \\(true\\)", "for \\(;;\\)", "\\bdouble\\b",
+            "\\bfloat\\b", "\" \\+", "\\+ \"", "Exact\\(", "values\\(\\)", "\\btry\\b");
+    /** Rule 4, as far as the class uses it. */
+    private static final Set<String> LIBRARY = Set.of("add", "get", "remove", "size", "isEmpty", "clear", "min");
+    private static final Set<String> THROWN = Set.of("IllegalArgumentException", "IllegalStateException",
+            "NoSuchElementException");
+    private static final Set<Class<?>> PLAIN = Set.of(int.class, long.class, boolean.class, String.class);
+    private static final Set<Class<?>> CONSTANT = Set.of(int.class, long.class, boolean.class, char.class,
+            String.class, int[].class, long[].class, char[].class, byte[].class);
+    private static final int MOST_LINES = 60;
+    private static final int MOST_PARAMETERS = 7;
     private static int wrong = 0;
 
     private static void must(boolean held, String what) {
@@ -93,10 +104,89 @@ public final class FaceTest {
         must(!Pattern.compile("^package", Pattern.MULTILINE).matcher(source).find(), "the source has a package");
     }
 
+    private static List<Class<?>> allClasses() {
+        List<Class<?>> all = new ArrayList<>(List.of(TokenHouse.class.getDeclaredClasses()));
+        all.add(TokenHouse.class);
+        return all;
+    }
+
+    /** Rules 3 and 5: the types of fields. */
+    private static void fieldsAreOfTheTypesAllowed() {
+        for (Class<?> c : allClasses()) {
+            for (Field f : c.getDeclaredFields()) {
+                Class<?> type = f.getType();
+                Class<?> part = type.isArray() ? type.getComponentType() : type;
+                boolean own = part.getName().startsWith("TokenHouse$");
+                boolean fits = Modifier.isStatic(f.getModifiers()) ? CONSTANT.contains(type)
+                        : own || PLAIN.contains(part) || type == ArrayList.class;
+                must(fits, f + " is of a type that the language leaves out");
+            }
+        }
+    }
+
+    /** Rule 11: at most seven parameters, of methods and of constructors. */
+    private static void parametersAreFew() {
+        for (Class<?> c : allClasses()) {
+            for (Method m : c.getDeclaredMethods()) {
+                must(m.getParameterCount() <= MOST_PARAMETERS, m + " takes too much");
+            }
+            for (Constructor<?> made : c.getDeclaredConstructors()) {
+                must(made.getParameterCount() <= MOST_PARAMETERS, made + " takes too much");
+            }
+        }
+    }
+
+    /** Rule 11: some sixty lines; a method begins and ends at the same depth of four or eight blanks. */
+    private static void methodsAreShort() throws IOException {
+        Pattern method = Pattern.compile("^( {4}| {8})(?! )([^\\n;=]*\\)[^\\n;=]*) \\{\\n(.*?)^\\1\\}$",
+                Pattern.MULTILINE | Pattern.DOTALL);
+        Matcher m = method.matcher(Files.readString(SOURCE));
+        int seen = 0;
+        while (m.find()) {
+            seen++;
+            must(m.group(3).lines().count() <= MOST_LINES, m.group(2) + " is too long");
+        }
+        must(seen > FACE.size(), "the source has only " + seen + " methods that this test sees");
+    }
+
+    /** Rule 4: every call behind a dot is one of the class's own, or of the library's few. */
+    private static void callsAreTheClassesOwnOrFew() throws IOException {
+        Set<String> own = new TreeSet<>();
+        for (Class<?> c : allClasses()) {
+            for (Method m : c.getDeclaredMethods()) {
+                own.add(m.getName());
+            }
+        }
+        Matcher call = Pattern.compile("\\.(\\w+)\\(").matcher(Files.readString(SOURCE));
+        while (call.find()) {
+            String name = call.group(1);
+            must(own.contains(name) || LIBRARY.contains(name), "the source calls " + name);
+        }
+    }
+
+    /** Rule 6: what is thrown has a written text, and only the face's methods throw. */
+    private static void throwsAreWritten() throws IOException {
+        String source = Files.readString(SOURCE);
+        Matcher thrown = Pattern.compile("\\bthrow\\b([^;]*);").matcher(source);
+        int seen = 0;
+        while (thrown.find()) {
+            seen++;
+            Matcher form = Pattern.compile(" new (\\w+)\\(\"[^\"+]*\"\\)").matcher(thrown.group(1));
+            must(form.matches() && THROWN.contains(form.group(1)), "the source has throw" + thrown.group(1));
+        }
+        must(seen > 0, "the source throws nothing");
+        must(source.lastIndexOf("throw new") < source.indexOf("    private Node nodeAt("), "a hidden method throws");
+    }
+
     public static void main(String[] args) throws IOException, NoSuchFieldException {
         faceIsTheDocuments();
         fieldsAreHidden();
         sourceKeepsToTheLanguage();
+        fieldsAreOfTheTypesAllowed();
+        parametersAreFew();
+        methodsAreShort();
+        callsAreTheClassesOwnOrFew();
+        throwsAreWritten();
         System.out.println(wrong == 0 ? "the face is as due" : wrong + " things are not as due");
         if (wrong != 0) {
             System.exit(1);
